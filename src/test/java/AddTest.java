@@ -19,6 +19,8 @@ public final class AddTest {
         check.due("get(3, 7)", x.get(3, 7), Integer.MAX_VALUE);
         check.due("get(MIN, 4)", x.get(Long.MIN_VALUE, 4), 5);
         check.due("get(MAX, 4)", x.get(Long.MAX_VALUE, 4), 6);
+        check.due("add(3 - (1 << 32), 0, 8)", x.add(3 - (1L << 32), 0, 8), 5);
+        check.due("get(3 - (1 << 32), 0)", x.get(3 - (1L << 32), 0), 8);
     }
 
     private static void wrongInputs(Check check) {

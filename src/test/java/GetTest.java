@@ -20,6 +20,7 @@ public final class GetTest {
         check.due("get(2 + (1 << 32), 0)", x.get(2 + (1L << 32), 0), 7);
         check.due("get(2, 1)", x.get(2, 1), NameTable.NONE);
         check.due("get(3, 0)", x.get(3, 0), NameTable.NONE);
+        check.due("get(-2 - (1 << 32), 0)", x.get(-2 - (1L << 32), 0), NameTable.NONE);
         check.due("get(MIN, 0)", x.get(Long.MIN_VALUE, 0), NameTable.NONE);
         check.due("get(MAX, 7)", x.get(Long.MAX_VALUE, 7), NameTable.NONE);
         check.due("many()", x.many(), 4);

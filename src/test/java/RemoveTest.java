@@ -17,6 +17,7 @@ public final class RemoveTest {
         check.due("remove(0, 0)", x.remove(0, 0), NameTable.NONE);
         check.due("remove(3, 0)", x.remove(3, 0), NameTable.NONE);
         check.due("remove(1 + (1 << 32), 0)", x.remove(1 + (1L << 32), 0), NameTable.NONE);
+        check.due("remove(1 - (1 << 32), 0)", x.remove(1 - (1L << 32), 0), NameTable.NONE);
         check.due("many() before", x.many(), 3);
         check.due("remove(1, 1)", x.remove(1, 1), 20);
         check.due("remove(1, 1) again", x.remove(1, 1), NameTable.NONE);
